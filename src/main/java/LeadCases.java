@@ -122,6 +122,7 @@ public final class LeadCases {
         if (cut.isEmpty() || lineCount >= standing.length) {
             throw new IllegalStateException("no word, or 12 lines");
         }
+        // It counts as a line from lineCount++ on only.
         Line line = standing[lineCount];
         line.begin(font, cut.last);
         int missing = takeSorts(line, turns);
@@ -576,7 +577,6 @@ public final class LeadCases {
                 sort.pile.put(sort);
             }
         }
-        line.begin(line.font, false);
     }
 
     /** Takes what the cut needs from the numbers that are left; answers whether they go so far. */
@@ -678,14 +678,13 @@ public final class LeadCases {
         return fallen;
     }
 
-    /** Takes a line away, its spaces to their boxes; the object is kept for a later line. */
+    /** Takes a line away, its spaces to their boxes; the object is kept for a line that is set later. */
     private void removeLine(int number) {
         Line gone = lineOf(number);
         if (gone == null) {
             return;
         }
         store.takeBackFrom(gone);
-        gone.begin(gone.font, false);
         for (int i = number + 1; i < lineCount && i < standing.length; i++) {
             standing[i - 1] = standing[i];
         }
@@ -967,7 +966,7 @@ public final class LeadCases {
                 return;
             }
             int next = wordFrom(to);
-            while (next < count) {
+            for (int words = 1; words < MOST_SIGNS && next < count; words++) {
                 int end = wordEnd(next);
                 width += PLAIN_GAP + widthOfWord(next, end, font);
                 if (width > measure) {
@@ -1011,13 +1010,13 @@ public final class LeadCases {
         boolean last = false;
         Form form = null;
 
+        /** Makes an empty line of one that had gone, with its spaces taken back. */
         void begin(int newFont, boolean isLast) {
             font = newFont;
             count = 0;
             gaps = 0;
             last = isLast;
             form = null;
-            dropSpaces();
         }
 
         boolean isFull() {

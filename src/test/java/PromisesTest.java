@@ -219,6 +219,11 @@ public final class PromisesTest {
     due(x.set(0, false), 3);
     due(x.line(3, 1), 6);
     due(x.clear(), 2);
+    type(x, "aaaaim"); // all but the last one
+    due(x.set(0, false), 4);
+    due(x.line(4, 1), 6);
+    due(x.clear(), 1);
+    x.putBack(4);
     type(x, "aaaaa"); // just as wide as the measure
     due(x.set(0, false), 4);
     due(x.line(4, 1), 5);
@@ -437,6 +442,13 @@ public final class PromisesTest {
     due(x.set(0, false), 0);
     due(x.gap(0, 0), 12);
     due(x.gap(0, 1), 12);
+    x.putBack(0);
+    x.clear();
+    x.measure(35);
+    type(x, "a a a aaaaaaa"); // 23: 12 and 11
+    due(x.set(0, false), 0);
+    due(x.gap(0, 0), 12);
+    due(x.gap(0, 1), 11);
 
     LeadCases y = new LeadCases(); // wrong sorts: a rest too small for 3 units, and one below 0
     y.measure(20);
@@ -565,6 +577,19 @@ public final class PromisesTest {
     due(x.sort(6, 4), 3);
     due(x.top(0, 1), 7);
     due(x.line(0, 5), 0);
+
+    LeadCases y = new LeadCases(); // the lowest one may be the first one of the pie
+    y.cast(0, 0, 2); // a: 0, 1
+    y.cast(0, 1, 1); // b: 2
+    y.foul(0, 0, 2); // 1 for c
+    setLine(y, 0, "ac"); // 0, 1
+    y.lock(0, 0);
+    due(y.lift(0), 2);
+    y.foul(0, 1, 0); // 2 for a
+    setLine(y, 0, "a");
+    due(y.mend(0, 0), 0);
+    due(y.pie(), 1);
+    due(y.sort(1, 4), 0);
   }
 
   private static void mendingOfForms() {
@@ -648,6 +673,14 @@ public final class PromisesTest {
     due(x.line(0, 4), 0);
     throwing(STATE, x, () -> x.putBack(0));
     throwing(INDEX, x, () -> x.putBack(1));
+    due(setLine(x, 0, "bb"), 1); // lines set behind one that went are lines of their own
+    due(setLine(x, 0, "a"), 2);
+    due(x.line(0, 1), 1);
+    due(x.line(1, 1), 2);
+    due(x.line(2, 1), 1);
+    due(x.sortAt(0, 0), 2);
+    due(x.putBack(1), 2);
+    due(x.putBack(1), 1);
     x.unlock(0);
     for (int units : new int[] {1, 2, 3, 4, 6}) due(x.inSpaces(units), 9);
 
@@ -877,6 +910,23 @@ public final class PromisesTest {
     due(x.unlock(0), 0);
     throwing(STATE, x, () -> x.proof(0));
     printedDue(x, "?? ????");
+
+    LeadCases z = new LeadCases(); // gaps of 2 units and of 1
+    z.measure(20);
+    z.cast(0, 8, 1); // i: 0
+    z.cast(0, 18, 1); // s: 1
+    z.cast(0, 12, 2); // m: 2, 3
+    z.cast(0, 27, 1); // comma: 4
+    for (int box : new int[] {18, 12, 12, 27}) z.foul(0, box, 8);
+    z.spaces(1, 9);
+    type(z, "i ii i"); // 2 + 6 + 6 + 3 are 17, so 3 are left
+    z.set(0, false);
+    due(z.gap(0, 0), 2);
+    due(z.gap(0, 1), 1);
+    z.lock(0, 0);
+    z.lift(0);
+    due(z.proof(0), 6);
+    printedDue(z, ", mm s");
 
     LeadCases y = new LeadCases(); // gaps in which nothing stands, and a shorter proof
     y.measure(20);
