@@ -122,7 +122,7 @@ public final class LeadCases {
         if (cut.isEmpty() || lineCount >= standing.length) {
             throw new IllegalStateException("no word, or 12 lines");
         }
-        // It counts as a line from lineCount++ on only.
+        // One that is not in use, and stays so if the line is not set.
         Line line = standing[lineCount];
         line.begin(font, cut.last);
         int missing = takeSorts(line, turns);
