@@ -214,7 +214,10 @@ public final class LeadCases {
         Form form = forms[formCount];
         formCount++;
         for (int i = first; i <= last && i < standing.length; i++) {
-            standing[i].form = form;
+            Line line = lineOf(i);
+            if (line != null) {
+                line.form = form;
+            }
         }
         return form.number;
     }
@@ -245,9 +248,10 @@ public final class LeadCases {
         }
         pulled.proofs++;
         sheet.count = 0;
-        for (int i = 0; i < lineCount && i < standing.length; i++) {
-            if (standing[i].form == pulled) {
-                print(standing[i]);
+        for (int i = 0; i < lineCount; i++) {
+            Line line = lineOf(i);
+            if (line != null && line.form == pulled) {
+                print(line);
             }
         }
         return sheet.count;
@@ -393,8 +397,9 @@ public final class LeadCases {
         for (int i = 0; i < piles.length; i++) {
             found += piles[i].countOf(font, box);
         }
-        for (int i = 0; i < lineCount && i < standing.length; i++) {
-            found += standing[i].countOf(font, box);
+        for (int i = 0; i < lineCount; i++) {
+            Line line = lineOf(i);
+            found += line == null ? 0 : line.countOf(font, box);
         }
         return found;
     }
@@ -710,9 +715,14 @@ public final class LeadCases {
         return true;
     }
 
+    private boolean isOf(Form form, int number) {
+        Line line = lineOf(number);
+        return line != null && line.form == form;
+    }
+
     private int firstLineOf(Form form) {
-        for (int i = 0; i < lineCount && i < standing.length; i++) {
-            if (standing[i].form == form) {
+        for (int i = 0; i < lineCount; i++) {
+            if (isOf(form, i)) {
                 return i;
             }
         }
@@ -721,8 +731,8 @@ public final class LeadCases {
 
     private int linesOf(Form form) {
         int count = 0;
-        for (int i = 0; i < lineCount && i < standing.length; i++) {
-            if (standing[i].form == form) {
+        for (int i = 0; i < lineCount; i++) {
+            if (isOf(form, i)) {
                 count++;
             }
         }
@@ -730,8 +740,9 @@ public final class LeadCases {
     }
 
     private boolean isTight(Form form) {
-        for (int i = 0; i < lineCount && i < standing.length; i++) {
-            if (standing[i].form == form && slackOf(standing[i]) != 0) {
+        for (int i = 0; i < lineCount; i++) {
+            Line line = lineOf(i);
+            if (line != null && line.form == form && slackOf(line) != 0) {
                 return false;
             }
         }

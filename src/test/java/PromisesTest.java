@@ -1,13 +1,5 @@
 /** For each promise of the document what it does, its edges, and what it throws. */
-public final class PromisesTest {
-  private static int checks = 0;
-  private static int wrong = 0;
-  private static String part = "";
-
-  private static final Class<?> INDEX = IndexOutOfBoundsException.class;
-  private static final Class<?> RANGE = IllegalArgumentException.class;
-  private static final Class<?> STATE = IllegalStateException.class;
-
+public final class PromisesTest extends Checks {
   public static void main(String[] args) {
     newObject();
     casting();
@@ -34,8 +26,7 @@ public final class PromisesTest {
     asking();
     countingLead();
     lookingAhead();
-    System.out.println(wrong == 0 ? checks + " checks hold" : wrong + " of " + checks + " checks fail");
-    if (wrong != 0) System.exit(1);
+    end();
   }
 
   // ---- 1 to 6
@@ -1168,41 +1159,6 @@ public final class PromisesTest {
     return x;
   }
 
-  private static void spaces(LeadCases x, int number) {
-    for (int units : new int[] {1, 2, 3, 4, 6}) x.spaces(units, number);
-  }
-
-  private static void type(LeadCases x, String signs) {
-    for (char sign : signs.toCharArray()) x.type(sign);
-  }
-
-  private static int setLine(LeadCases x, int font, String signs) {
-    type(x, signs);
-    return x.set(font, false);
-  }
-
-  private static void emptyBox(LeadCases x, int font, int box, int other) {
-    while (x.inBox(font, box) > 0) x.foul(font, box, other);
-  }
-
-  private static void leadDue(LeadCases x, int font, int box, int want) {
-    due(x.lead(font, box), want);
-    due(x.leadAnew(font, box), want);
-  }
-
-  private static void toldDue(LeadCases x, int sort, int... want) {
-    for (int what = 0; what < want.length; what++) due(x.sort(sort, what), want[what]);
-  }
-
-  private static void printedDue(LeadCases x, String want) {
-    for (int i = 0; i < want.length(); i++) due(x.printed(i), want.charAt(i));
-  }
-
-  private static void due(long got, long want) {
-    checks++;
-    if (got != want) report("answered " + got + ", due is " + want);
-  }
-
   /** The call throws just that, and all that can be asked is the same behind it. */
   private static void throwing(Class<?> due, LeadCases x, Runnable call) {
     checks++;
@@ -1256,15 +1212,5 @@ public final class PromisesTest {
     } catch (IndexOutOfBoundsException e) {
       return false;
     }
-  }
-
-  private static void report(String what) {
-    wrong++;
-    int line = 0;
-    for (StackTraceElement call : new Throwable().getStackTrace()) {
-      line = call.getLineNumber();
-      if (!call.getMethodName().matches("report|due|throwing|same|leadDue|toldDue|printedDue")) break;
-    }
-    System.out.println("promise " + part + ", line " + line + ": " + what);
   }
 }
