@@ -119,11 +119,10 @@ public final class LeadCases {
             throw new IndexOutOfBoundsException("no such case");
         }
         text.cutAt(0, font, measured, cut);
-        if (cut.isEmpty() || lineCount >= standing.length) {
+        Line line = spareLine();
+        if (cut.isEmpty() || line == null) {
             throw new IllegalStateException("no word, or 12 lines");
         }
-        // One that is not in use, and stays so if the line is not set.
-        Line line = standing[lineCount];
         line.begin(font, cut.last);
         int missing = takeSorts(line, turns);
         if (missing != NONE) {
@@ -208,10 +207,10 @@ public final class LeadCases {
         if (last < first) {
             throw new IllegalArgumentException("the last one is ahead of the first one");
         }
-        if (!areFree(first, last) || formCount >= forms.length) {
+        Form form = formCount >= 0 && formCount < forms.length ? forms[formCount] : null;
+        if (!areFree(first, last) || form == null) {
             throw new IllegalStateException("a line is of a form, or there were 4 forms");
         }
-        Form form = forms[formCount];
         formCount++;
         for (int i = first; i <= last && i < standing.length; i++) {
             Line line = lineOf(i);
@@ -395,7 +394,7 @@ public final class LeadCases {
         }
         int found = heap.countOf(font, box);
         for (int i = 0; i < piles.length; i++) {
-            found += piles[i].countOf(font, box);
+            found += piles[i] == null ? 0 : piles[i].countOf(font, box);
         }
         for (int i = 0; i < lineCount; i++) {
             Line line = lineOf(i);
@@ -631,6 +630,11 @@ public final class LeadCases {
 
     private Line lineOf(int number) {
         return number >= 0 && number < lineCount && number < standing.length ? standing[number] : null;
+    }
+
+    /** The object for the next line, which stays spare if that is not set; null if there are 12. */
+    private Line spareLine() {
+        return lineCount >= 0 && lineCount < standing.length ? standing[lineCount] : null;
     }
 
     private int lineWith(Sort sort) {
